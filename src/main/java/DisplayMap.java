@@ -869,19 +869,20 @@ public final class DisplayMap {
             return NONE;
         }
 
-        /** What a draw of a day does. */
+        /** A number modulo as many as there are, or -1, which is no place and no fold, if there are none. */
+        private static int reduced(int n, int many) {
+            return many > 0 ? n % many : -1;
+        }
+
+        /** What a draw of a day does: nothing, if there is no room, no sign or no fold. */
         private void live(int draw) {
             int kind = draw % 4;
             if (kind == 2) {
-                if (signCount > 0) {
-                    takeOut(draw / 256 % signCount);
-                }
+                takeOut(reduced(draw / 256, signCount));
             } else if (kind == 3) {
-                if (foldCount > 0) {
-                    turn(draw / 8 % foldCount);
-                }
+                turn(reduced(draw / 8, foldCount));
             } else {
-                putIn(draw / 256 % (signCount + 1), draw / 8 % 28);
+                putIn(reduced(draw / 256, signCount + 1), draw / 8 % 28);
             }
         }
     }

@@ -220,35 +220,30 @@ public final class ActsTest {
         due("tabs stay", x.count(8), 8);
     }
 
-    private static String all(DisplayMap x) {
-        return Checks.signs(x) + " " + Checks.folds(x) + " " + Checks.hints(x) + " " + Checks.rows(x)
-            + " " + x.count(5) + x.count(6) + x.count(7) + x.count(8);
-    }
-
     private static void undo() {
         DisplayMap x = Checks.laid("tab/cdefgh;f1,3;f5,7;h0,2;h6,3;w2,5,1;b3;");
         String[] states = new String[9];
-        states[0] = all(x);
+        states[0] = Checks.all(x);
         due("erase", x.erase(6), 5);
-        states[1] = all(x);
+        states[1] = Checks.all(x);
         due("insert", x.insert(2, 26), 9);
-        states[2] = all(x);
+        states[2] = Checks.all(x);
         due("toggle", x.toggle(0), 0);
-        states[3] = all(x);
+        states[3] = Checks.all(x);
         due("unfold", x.unfold(1), 1);
-        states[4] = all(x);
+        states[4] = Checks.all(x);
         due("make", x.make(7, 9), 1);
-        states[5] = all(x);
+        states[5] = Checks.all(x);
         due("unset", x.unset(0), 2);
-        states[6] = all(x);
+        states[6] = Checks.all(x);
         due("set", x.set(9, 5), 1);
-        states[7] = all(x);
+        states[7] = Checks.all(x);
         due("wide", x.wide(1, 9, 2), 1);
-        states[8] = all(x);
+        states[8] = Checks.all(x);
         for (int n = 7; n >= 0; n--) {
             due("undo to " + n, x.undo(), n);
             due("count 9", x.count(9), n);
-            CHECKS.dueAll("undone to " + n, all(x), states[n]);
+            CHECKS.dueAll("undone to " + n, Checks.all(x), states[n]);
         }
         due("undo nothing", x.undo(), DisplayMap.NO);
         x.tabs(8);
@@ -274,7 +269,7 @@ public final class ActsTest {
     private static void refusalsChangeNothing() {
         DisplayMap x = Checks.laid("tabcdef;f0,2;h3,1;w1,4,0;");
         x.insert(6, 6);
-        String before = all(x) + x.changed(0) + x.changed(1) + x.count(9);
+        String before = Checks.all(x) + x.changed(0) + x.changed(1) + x.count(9);
         x.insert(9, 0);
         x.erase(7);
         x.toggle(1);
@@ -285,6 +280,6 @@ public final class ActsTest {
         x.wide(1, 4, 0);
         x.tabs(4);
         x.tabs(9);
-        CHECKS.dueAll("refused acts", all(x) + x.changed(0) + x.changed(1) + x.count(9), before);
+        CHECKS.dueAll("refused acts", Checks.all(x) + x.changed(0) + x.changed(1) + x.count(9), before);
     }
 }

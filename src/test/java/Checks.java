@@ -94,6 +94,12 @@ final class Checks {
         return s.toString().trim();
     }
 
+    /** All that an act can change. */
+    static String all(DisplayMap x) {
+        return signs(x) + " " + folds(x) + " " + hints(x) + " " + rows(x)
+            + " " + x.count(5) + " " + x.count(6) + " " + x.count(7) + " " + x.count(8);
+    }
+
     static String tight(DisplayMap x) {
         StringBuilder s = new StringBuilder();
         for (int k = 0; k < x.tight(-1); k++) {

@@ -8,6 +8,7 @@ public final class WouldBeTest {
         tight();
         day();
         dayByHand();
+        wholeDays();
         keepAndBack();
         count();
         askingChangesNothing();
@@ -31,6 +32,8 @@ public final class WouldBeTest {
         due("w stays", x.count(6), 9);
         x = Checks.laid("tabcdefghijkl;w1,9,3;");
         due("fit with indent", x.fit(2), 8);
+        x = Checks.laid("tabcdefghijklmnopqrst;f2,3;w1,9,0;");
+        due("20 columns, one row", x.fit(1), 20);
         x = Checks.laid("tabcdefghijklmnopqrstu;w1,9,0;");
         due("21 letters, one row", x.fit(1), DisplayMap.NONE);
         due("21 letters, two rows", x.fit(2), 11);
@@ -137,22 +140,30 @@ public final class WouldBeTest {
         due("columns of ab | ===d", x.day(3, 1, 2), 4);
     }
 
-    private static String all(DisplayMap x) {
-        return Checks.signs(x) + " " + Checks.folds(x) + " " + Checks.hints(x) + " " + Checks.rows(x)
-            + " " + x.count(5) + x.count(6) + x.count(7) + x.count(8);
+    private static void wholeDays() {
+        DisplayMap x = Checks.laid("tabcd;w0,4,0;b8;");
+        // 9999: abcd, abqcd, abgqcd, .., bgxgzqfheedlqaal; 0: uddgwa/>wuxwf; 12: wqwgpyugrbgrec/vav
+        int[][] wants = {
+            {9999, 1, 4, 1, 4}, {9999, 2, 5, 1, 5}, {9999, 3, 6, 1, 6}, {9999, 40, 16, 1, 16},
+            {0, 40, 13, 2, 13}, {12, 40, 18, 2, 14}};
+        for (int[] w : wants) {
+            for (int what = 0; what < 3; what++) {
+                due("day " + w[0] + " " + w[1] + " " + what, x.day(w[0], w[1], what), w[2 + what]);
+            }
+        }
     }
 
     private static void keepAndBack() {
         DisplayMap x = Checks.laid("tab/cdef;f1,3;h4,2;w2,5,1;b3;");
         due("back without", x.back(), DisplayMap.NO);
-        String first = all(x);
+        String first = Checks.all(x);
         due("keep", x.keep(), 1);
         x.insert(0, 3);
         x.toggle(0);
         x.unset(0);
         x.wide(1, 9, 0);
         x.tabs(8);
-        String second = all(x);
+        String second = Checks.all(x);
         due("keep a second", x.keep(), 2);
         due("keep a third", x.keep(), DisplayMap.FULL);
         due("kept", x.count(10), 2);
@@ -160,13 +171,13 @@ public final class WouldBeTest {
         x.erase(0);
         x.unfold(0);
         due("back", x.back(), 1);
-        CHECKS.dueAll("back to the second", all(x), second);
+        CHECKS.dueAll("back to the second", Checks.all(x), second);
         due("nothing is undone", x.undo(), DisplayMap.NO);
         due("nothing changed", x.changed(0), DisplayMap.NONE);
         due("no row changed", x.changed(1), 0);
         x.erase(0);
         due("back again", x.back(), 0);
-        CHECKS.dueAll("back to the first", all(x), first);
+        CHECKS.dueAll("back to the first", Checks.all(x), first);
         due("back no more", x.back(), DisplayMap.NO);
         due("keep anew", x.keep(), 1);
         x.erase(0);
@@ -190,13 +201,13 @@ public final class WouldBeTest {
     private static void askingChangesNothing() {
         DisplayMap x = Checks.laid("tab/cdefgh;f1,3;f4,6;h4,2;w1,5,1;b3;");
         x.toggle(1);
-        String before = all(x) + x.changed(0) + x.changed(1) + x.count(9);
+        String before = Checks.all(x) + x.changed(0) + x.changed(1) + x.count(9);
         x.fit(1);
         x.saves(0);
         x.tight(-1);
         x.day(77, 40, 0);
         x.fault();
         x.keep();
-        CHECKS.dueAll("asked", all(x) + x.changed(0) + x.changed(1) + x.count(9), before);
+        CHECKS.dueAll("asked", Checks.all(x) + x.changed(0) + x.changed(1) + x.count(9), before);
     }
 }
