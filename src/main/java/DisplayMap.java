@@ -893,7 +893,7 @@ public final class DisplayMap {
         private int count;
 
         private Pile(int most) {
-            sheets = new Sheet[most];
+            sheets = new Sheet[Math.max(0, most)];
             for (int i = 0; i < sheets.length; i++) {
                 sheets[i] = new Sheet();
             }
