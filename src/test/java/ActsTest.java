@@ -220,31 +220,39 @@ public final class ActsTest {
         due("tabs stay", x.count(8), 8);
     }
 
-    private static void undo() {
-        DisplayMap x = Checks.laid("tab/cdefgh;f1,3;f5,7;h0,2;h6,3;w2,5,1;b3;");
-        String[] states = new String[9];
-        states[0] = Checks.all(x);
-        due("erase", x.erase(6), 5);
-        states[1] = Checks.all(x);
-        due("insert", x.insert(2, 26), 9);
-        states[2] = Checks.all(x);
-        due("toggle", x.toggle(0), 0);
-        states[3] = Checks.all(x);
-        due("unfold", x.unfold(1), 1);
-        states[4] = Checks.all(x);
-        due("make", x.make(7, 9), 1);
-        states[5] = Checks.all(x);
-        due("unset", x.unset(0), 2);
-        states[6] = Checks.all(x);
-        due("set", x.set(9, 5), 1);
-        states[7] = Checks.all(x);
-        due("wide", x.wide(1, 9, 2), 1);
-        states[8] = Checks.all(x);
-        for (int n = 7; n >= 0; n--) {
-            due("undo to " + n, x.undo(), n);
-            due("count 9", x.count(9), n);
-            CHECKS.dueAll("undone to " + n, Checks.all(x), states[n]);
+    /** The n-th of eight acts of all kinds but one. */
+    private static int act(DisplayMap x, int n) {
+        switch (n) {
+            case 0: return x.erase(6);
+            case 1: return x.insert(2, 26);
+            case 2: return x.toggle(0);
+            case 3: return x.unfold(1);
+            case 4: return x.make(7, 9);
+            case 5: return x.unset(0);
+            case 6: return x.set(9, 5);
+            default: return x.wide(1, 9, 2);
         }
+    }
+
+    private static DisplayMap acted(int acts) {
+        DisplayMap x = Checks.laid("tab/cdefgh;f1,3;f5,7;h0,2;h6,3;w2,5,1;b3;");
+        int[] answers = {5, 9, 0, 1, 1, 2, 1, 1};
+        for (int n = 0; n < acts; n++) {
+            due("act " + n, act(x, n), answers[n]);
+        }
+        return x;
+    }
+
+    private static void undo() {
+        for (int left = 8; left >= 0; left--) {
+            DisplayMap x = acted(8);
+            for (int n = 7; n >= left; n--) {
+                due("undo to " + n, x.undo(), n);
+            }
+            due("count 9", x.count(9), left);
+            CHECKS.dueAll("undone to " + left, Checks.all(x), Checks.all(acted(left)));
+        }
+        DisplayMap x = acted(0);
         due("undo nothing", x.undo(), DisplayMap.NO);
         x.tabs(8);
         due("undo tabs", x.undo(), 0);

@@ -1,4 +1,7 @@
-/** Counts and prints the calls whose answer is not the one that is due. */
+/**
+ * Counts and prints the calls whose answer is not the one that is due, and tells what an object holds. That is told in
+ * as few calls as will do, for what an object answers is promised for 512 calls only.
+ */
 final class Checks {
     private int done = 0;
     private int wrong = 0;
@@ -46,7 +49,7 @@ final class Checks {
     /** The signs as a text tells them. */
     static String signs(DisplayMap x) {
         StringBuilder s = new StringBuilder();
-        for (int p = 0; p < x.count(0); p++) {
+        for (int p = 0, many = x.count(0); p < many; p++) {
             s.append("abcdefghijklmnopqrstuvwxyz>/".charAt(x.sign(p)));
         }
         return s.toString();
@@ -55,7 +58,7 @@ final class Checks {
     /** A,B of each fold, with ! behind a shut one. */
     static String folds(DisplayMap x) {
         StringBuilder s = new StringBuilder();
-        for (int f = 0; f < x.count(1); f++) {
+        for (int f = 0, many = x.count(1); f < many; f++) {
             s.append(x.fold(f, 0)).append(',').append(x.fold(f, 1)).append(x.fold(f, 2) == 1 ? "! " : " ");
         }
         return s.toString().trim();
@@ -64,7 +67,7 @@ final class Checks {
     /** A,N of each hint, with ! behind one that stands on the screen. */
     static String hints(DisplayMap x) {
         StringBuilder s = new StringBuilder();
-        for (int h = 0; h < x.count(2); h++) {
+        for (int h = 0, many = x.count(2); h < many; h++) {
             s.append(x.hint(h, 0)).append(',').append(x.hint(h, 1)).append(x.hint(h, 2) == 1 ? "! " : " ");
         }
         return s.toString().trim();
@@ -73,11 +76,11 @@ final class Checks {
     /** The rows, parted by |: letters, > a tab's columns, # a fold sign, = a hint's columns, . nothing. */
     static String rows(DisplayMap x) {
         StringBuilder s = new StringBuilder();
-        for (int r = 0; r < x.count(3); r++) {
+        for (int r = 0, many = x.count(3); r < many; r++) {
             if (r > 0) {
                 s.append('|');
             }
-            for (int c = 0; c < x.row(r, 0); c++) {
+            for (int c = 0, end = x.row(r, 0); c < end; c++) {
                 int code = x.screen(r, c);
                 s.append(code < 0 ? '.' : "abcdefghijklmnopqrstuvwxyz>?#=".charAt(code));
             }
@@ -88,7 +91,7 @@ final class Checks {
     /** Where every place stands: row:column. */
     static String stands(DisplayMap x) {
         StringBuilder s = new StringBuilder();
-        for (int p = 0; p <= x.count(0); p++) {
+        for (int p = 0, last = x.count(0); p <= last; p++) {
             s.append(x.stands(p, 0)).append(':').append(x.stands(p, 1)).append(' ');
         }
         return s.toString().trim();
@@ -102,7 +105,7 @@ final class Checks {
 
     static String tight(DisplayMap x) {
         StringBuilder s = new StringBuilder();
-        for (int k = 0; k < x.tight(-1); k++) {
+        for (int k = 0, many = x.tight(-1); k < many; k++) {
             s.append(x.tight(k)).append(' ');
         }
         return s.toString().trim();

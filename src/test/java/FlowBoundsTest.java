@@ -351,6 +351,13 @@ public final class FlowBoundsTest {
     }
 
     private static void changedEdges() {
+        DisplayMap y = Checks.laid("");
+        y.insert(0, 0);
+        due("the first letter of all", y.changed(0), 0);
+        due("its row", y.changed(1), 1);
+        y.erase(0);
+        due("the last letter of all", y.changed(0), 0);
+        due("the row of nothing", y.changed(1), 1);
         DisplayMap x = Checks.laid("tabcd;w1,4,0;");
         x.tabs(8);
         due("tabs without a tab", x.changed(0), DisplayMap.NONE);

@@ -44,7 +44,9 @@ public final class ModelTest {
             if (random.nextInt(60) == 0) {
                 layText();
             }
-            step(askMuch ? random.nextInt(30) : 7 + random.nextInt(16));
+            if (calls.size() < CALLS) {
+                step(askMuch ? random.nextInt(30) : 7 + random.nextInt(16));
+            }
         }
     }
 

@@ -98,19 +98,23 @@ final class Twins {
 
     private static String past(DisplayMap x) {
         StringBuilder s = new StringBuilder();
-        for (int n = 0; n < 10; n++) {
-            s.append(x.undo()).append(' ').append(x.changed(0)).append(' ').append(x.changed(1)).append(' ');
+        int left = x.undo();
+        for (int n = 0; n < 10 && left >= 0; n++) {
+            s.append(left).append(' ').append(x.changed(0)).append(' ').append(x.changed(1)).append(' ');
             s.append(Checks.signs(x)).append(' ').append(x.count(1)).append(x.count(2)).append(x.count(3)).append('|');
+            left = x.undo();
         }
-        return s.toString();
+        return s.append(left).toString();
     }
 
     private static String kept(DisplayMap x) {
         StringBuilder s = new StringBuilder();
-        for (int n = 0; n < 3; n++) {
-            s.append(x.back()).append(' ').append(page(x)).append('|');
+        int left = x.back();
+        for (int n = 0; n < 3 && left >= 0; n++) {
+            s.append(left).append(' ').append(page(x)).append('|');
+            left = x.back();
         }
-        return s.toString();
+        return s.append(left).toString();
     }
 
     /** THE TEXT is seen by its fault and by what it lays, alone and with an item more. */
